@@ -31,6 +31,7 @@ public final class PromisesTest {
         promise19BestCost();
         promise20BestAt();
         promise20BestAtTies();
+        promises19To21OfEightStrokes();
         promise21AdoptBest();
         promise22AdoptNearest();
         promise22AdoptNearestTies();
@@ -39,6 +40,7 @@ public final class PromisesTest {
         promise25CornerLimit();
         promise26EndSquare();
         promise27PeakSquare();
+        promises26And27OfEightPositions();
         promise28Undo();
         promise28UndoOfEachEdit();
         promise28UndoLeavesTheSettings();
@@ -301,6 +303,19 @@ public final class PromisesTest {
         Check.due("9: leastRuns(3), a chain", x.leastRuns(3), 1);
         x.addStroke(0, 0, 7, 0, 3);
         Check.due("9: leastRuns(3), a ring", x.leastRuns(3), 1);
+        // each two end points can be the ones that touch
+        PlotterPlanner y = new PlotterPlanner();
+        y.addStroke(5, 5, 0, 0, 0);
+        y.addStroke(5, 5, 9, 9, 0);
+        y.addStroke(0, 0, 5, 5, 1);
+        y.addStroke(9, 9, 5, 5, 1);
+        y.addStroke(0, 0, 5, 5, 2);
+        y.addStroke(5, 5, 9, 9, 2);
+        y.addStroke(5, 5, 0, 0, 3);
+        y.addStroke(9, 9, 5, 5, 3);
+        for (int pen = 0; pen < 4; pen++) {
+            Check.due("9: leastRuns(" + pen + "), two that touch", y.leastRuns(pen), 1);
+        }
     }
 
     private static void promises10And11StrokeAtAndDirectionAt() {
@@ -479,6 +494,12 @@ public final class PromisesTest {
         x.undo();
         Check.due("19: bestCost(), undone", x.bestCost(), 10 + 10 + 1 + 2 + 3);
         Check.due("19: undo(), bestCost is no edit", x.undo(), 2);
+        // the nearest stroke first would cost 10 + 20
+        PlotterPlanner y = new PlotterPlanner();
+        y.addStroke(10, 0, 20, 0, 0);
+        y.addStroke(0, 12, 0, 13, 0);
+        Check.due("19: bestCost(), not the nearest plan", y.bestCost(), 12 + 13 + 50);
+        Check.due("19: adoptNearest()", y.adoptNearest(), 10 + 20 + 50);
     }
 
     private static void promise20BestAt() {
@@ -529,6 +550,26 @@ public final class PromisesTest {
         w.addStroke(10, 10, 20, 10, 0);
         Check.due("20: bestAt(0), any pen", w.bestAt(0), 0);
         Check.due("20: bestAt(1), back the way", w.bestAt(1), 3);
+    }
+
+    private static void promises19To21OfEightStrokes() {
+        PlotterPlanner x = new PlotterPlanner();
+        for (int stroke = 0; stroke < 8; stroke++) {
+            x.addStroke(10 * stroke, 0, 10 * stroke + 5, 0, stroke % 2);
+        }
+        Check.due("19: cost()", x.cost(), 7 * 5 + 8 * 50);
+        // pen 0 on the way out, pen 1 on the way back; stroke 7 costs the same either way
+        Check.due("19: bestCost() of eight", x.bestCost(), 45 + 10 + 45 + 2 * 50);
+        int[] codes = {0, 4, 8, 12, 14, 11, 7, 3};
+        for (int position = 0; position < 8; position++) {
+            Check.due("20: bestAt(" + position + ") of eight", x.bestAt(position), codes[position]);
+        }
+        Check.due("20: bestAt(8) of eight", x.bestAt(8), NONE);
+        Check.due("21: adoptBest() of eight", x.adoptBest(), 200);
+        Check.plan("21: adoptBest() of eight", x, codes);
+        x.setPenCost(0);
+        Check.due("21: adoptBest() without a pen cost", x.adoptBest(), 7 * 5);
+        Check.plan("21: adoptBest() without a pen cost", x, 0, 2, 4, 6, 8, 10, 12, 14);
     }
 
     private static void promise21AdoptBest() {
@@ -647,6 +688,10 @@ public final class PromisesTest {
         y.addStroke(50, 50, 60, 50, 0);
         y.addStroke(60, 50, 50, 60, 0);
         Check.due("25: cornerLimit(0), an obtuse turn", y.cornerLimit(0), 0);
+        PlotterPlanner z = new PlotterPlanner();
+        z.addStroke(0, 0, 1, 0, 0);
+        z.addStroke(1, 0, 2, 99, 0);
+        Check.due("25: cornerLimit(0), a scalar product of 1", z.cornerLimit(0), 100);
     }
 
     private static void promise26EndSquare() {
@@ -710,6 +755,23 @@ public final class PromisesTest {
         Check.due("27: endSquare(0)", y.endSquare(0), 8);
         y.setAcceleration(7);
         Check.due("27: peakSquare(1), rounded down", y.peakSquare(1), (15 + 28) / 2);
+    }
+
+    private static void promises26And27OfEightPositions() {
+        PlotterPlanner x = new PlotterPlanner();
+        x.setSquareLimit(9999);
+        for (int stroke = 0; stroke < 8; stroke++) {
+            x.addStroke(10 * stroke, 1, 10 * stroke + 10, 1, 0);
+        }
+        Check.due("17: runLength(0) of eight", x.runLength(0), 8);
+        int[] ends = {200, 400, 600, 800, 600, 400, 200, 0};
+        for (int position = 0; position < 8; position++) {
+            int begin = position == 0 ? 0 : ends[position - 1];
+            Check.due("26: endSquare(" + position + ") of eight",
+                    x.endSquare(position), ends[position]);
+            Check.due("27: peakSquare(" + position + ") of eight",
+                    x.peakSquare(position), (begin + ends[position] + 200) / 2);
+        }
     }
 
     private static void promise28Undo() {

@@ -325,28 +325,27 @@ final class Reference {
     private int findBest() {
         best = null;
         bestSum = Integer.MAX_VALUE;
-        tryAll(new ArrayList<>(), 0);
+        tryAll(new ArrayList<>(), 0, 0);
         return bestSum;
     }
 
-    private void tryAll(List<Place> begun, int sum) {
+    // The bits of begun tell which strokes the front already has.
+    private void tryAll(List<Place> front, int begun, int sum) {
         if (sum >= bestSum) {
             return;
         }
-        if (begun.size() == strokes.size()) {
-            best = new ArrayList<>(begun);
+        if (front.size() == strokes.size()) {
+            best = new ArrayList<>(front);
             bestSum = sum;
             return;
         }
-        Place last = begun.isEmpty() ? null : begun.get(begun.size() - 1);
-        for (Stroke stroke : strokes) {
-            if (begun.stream().noneMatch(place -> place.stroke() == stroke)) {
-                for (int direction = 0; direction < 2; direction++) {
-                    Place next = new Place(stroke, direction == 1);
-                    begun.add(next);
-                    tryAll(begun, sum + step(last, next));
-                    begun.remove(begun.size() - 1);
-                }
+        Place last = front.isEmpty() ? null : front.get(front.size() - 1);
+        for (int number = 0; number < strokes.size(); number++) {
+            for (int direction = 0; direction < 2 && (begun >> number) % 2 == 0; direction++) {
+                Place next = new Place(strokes.get(number), direction == 1);
+                front.add(next);
+                tryAll(front, begun + (1 << number), sum + step(last, next));
+                front.remove(front.size() - 1);
             }
         }
     }

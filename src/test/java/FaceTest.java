@@ -22,8 +22,8 @@ public final class FaceTest {
             "endSquare/1", "peakSquare/1", "undo/0");
     // Words that LANGUAGE.md shuts out, and the ends of what it lets in (calls of a library).
     private static final Pattern SHUT_OUT = Pattern.compile(
-            "\\b(throw|throws|try|catch|synchronized|assert|import|package|protected|native|volatile)"
-            + "\\b|->|::|\\b\\w+Exact\\b|\\b(?!System\\.arraycopy\\b|Math\\.(max|min|abs)\\b)"
+            "\\b(throw|throws|try|catch|synchronized|assert|import|package|protected|native"
+            + "|volatile)\\b|->|::|\\b\\w+Exact\\b|\\b(?!System\\.arraycopy\\b|Math\\.(max|min|abs)\\b)"
             + "(System|Math|Arrays|Integer|Long|Thread|Runtime)\\.\\w+");
 
     private FaceTest() {

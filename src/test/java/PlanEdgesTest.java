@@ -5,11 +5,8 @@
 public final class PlanEdgesTest {
     private static final int WRONG = Sample.WRONG;
     private static final int NONE = Sample.NONE;
-    private static final int LEAST = Integer.MIN_VALUE;
-    private static final int GREATEST = Integer.MAX_VALUE;
-    private static final int[] NEGATIVE = {-1, -2, -8, -256, LEAST + 1, LEAST};
-    /** No positions or runs, however many strokes there are. */
-    private static final int[] BEYOND = {8, 9, 16, 256, 65536, GREATEST - 1, GREATEST};
+    private static final int[] NEGATIVE = Sample.NEGATIVE;
+    private static final int[] BEYOND = Sample.BEYOND;
 
     private PlanEdgesTest() {
     }
@@ -362,7 +359,6 @@ public final class PlanEdgesTest {
     // "The pen cost C is from 0 to 500"
     private static void promise14TakesThePenCostsEnds() {
         PlotterPlanner x = Sample.row(0);
-        x.addStroke(1, 1, 1, 1, 0);
         x.setPenCost(0);
         Check.due("14: cost() for 0", x.cost(), 5);
         x.setPenCost(1);

@@ -6,6 +6,12 @@ final class Sample {
     static final int WRONG = PlotterPlanner.INVALID_ARGUMENT;
     static final int FULL = PlotterPlanner.LIMIT_REACHED;
     static final int NONE = PlotterPlanner.NOT_FOUND;
+    private static final int LEAST = Integer.MIN_VALUE;
+    private static final int GREATEST = Integer.MAX_VALUE;
+    /** No positions or runs, and some that a byte or a short would cut to one. */
+    static final int[] NEGATIVE = {-1, -2, -8, -256, LEAST + 1, LEAST};
+    /** No positions or runs, however many strokes there are. */
+    static final int[] BEYOND = {8, 9, 16, 256, 65536, GREATEST - 1, GREATEST};
 
     private Sample() {
     }
@@ -53,6 +59,16 @@ final class Sample {
         PlotterPlanner planner = new PlotterPlanner();
         for (int stroke = 0; stroke < 8; stroke++) {
             planner.addStroke(10 * stroke, 5, 10 * stroke + 10, 5, pen);
+        }
+        return planner;
+    }
+
+    /** A planner with these strokes, five numbers for each as addStroke takes them. */
+    static PlotterPlanner drawn(int... numbers) {
+        PlotterPlanner planner = new PlotterPlanner();
+        for (int first = 0; first < numbers.length; first += 5) {
+            Check.due("addStroke", planner.addStroke(numbers[first], numbers[first + 1],
+                    numbers[first + 2], numbers[first + 3], numbers[first + 4]), first / 5);
         }
         return planner;
     }
@@ -106,6 +122,12 @@ final class Sample {
         Check.due(call, calling.applyAsInt(planner), error);
         same(call + " changes nothing", answers(planner), before);
         sameUndos(call + " is no edit", planner, state.get());
+    }
+
+    /** A question, or a setting that changes nothing: it is no edit, either. */
+    static void answersAlone(String call, Supplier<PlotterPlanner> state,
+            ToIntFunction<PlotterPlanner> calling, int answer) {
+        refused(call, state, calling, answer);
     }
 
     /** A call that answers without being an edit: nothing changes, and no undo is for it. */

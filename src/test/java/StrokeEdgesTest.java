@@ -128,6 +128,7 @@ public final class StrokeEdgesTest {
         promise2TakesAnEighthStrokeAgain();
         promise2RefusesAWrongNinthStrokeAsWrong();
         promise2PutsTheStrokeAtTheEndForward();
+        promise2IsUndone();
     }
 
     private static int add(PlotterPlanner x, int[] five) {
@@ -189,8 +190,9 @@ public final class StrokeEdgesTest {
 
     private static void promise2RefusesOtherPens() {
         for (int pen : NO_PENS) {
-            Sample.refused("2: pen " + pen, Sample::none, x -> x.addStroke(1, 2, 3, 4, pen), WRONG);
-            Sample.refused("2: pen " + pen, Sample::three, x -> x.addStroke(1, 2, 3, 4, pen), WRONG);
+            String name = "2: pen " + pen;
+            Sample.refused(name, Sample::none, x -> x.addStroke(1, 2, 3, 4, pen), WRONG);
+            Sample.refused(name, Sample::three, x -> x.addStroke(1, 2, 3, 4, pen), WRONG);
         }
     }
 
@@ -278,6 +280,16 @@ public final class StrokeEdgesTest {
             x.movePosition(stroke, 0);
         }
         Check.plan("2: each one moved to the front", x, 15, 13, 11, 9, 7, 5, 3, 1);
+    }
+
+    // "This is an edit."
+    private static void promise2IsUndone() {
+        Sample.undoneEdit("2: the first stroke", Sample::none, x -> x.addStroke(9, 9, 1, 1, 3), 0);
+        Sample.undoneEdit("2: a fourth", Sample::three, x -> x.addStroke(9, 9, 1, 1, 3), 3);
+        Sample.undoneEdit("2: an eighth",
+                () -> Sample.drawn(0, 0, 1, 0, 0, 2, 0, 3, 0, 0, 4, 0, 5, 0, 0, 6, 0, 7, 0, 0,
+                        8, 0, 9, 0, 0, 10, 0, 11, 0, 0, 12, 0, 13, 0, 0),
+                x -> x.addStroke(99, 99, 1, 1, 3), 7);
     }
 
     // Promise 3

@@ -237,15 +237,15 @@ public final class HistoryEdgesTest {
     }
 
     private static List<Call> edits() {
-        return List.of(new Call("removeStroke(0)", x -> x.removeStroke(0), 7),
-                new Call("removeStroke(7)", x -> x.removeStroke(7), 7),
-                new Call("movePosition(0, 7)", x -> x.movePosition(0, 7), 7),
-                new Call("movePosition(7, 0)", x -> x.movePosition(7, 0), 6),
-                new Call("turnPosition(0)", x -> x.turnPosition(0), 0),
-                new Call("turnPosition(7)", x -> x.turnPosition(7), 0),
-                new Call("adoptBest()", x -> x.adoptBest(), 188),
-                new Call("adoptNearest()", x -> x.adoptNearest(), 188),
-                new Call("removeDuplicates()", x -> x.removeDuplicates(), 2));
+        return List.of(new Call("3: removeStroke(0)", x -> x.removeStroke(0), 7),
+                new Call("3: removeStroke(7)", x -> x.removeStroke(7), 7),
+                new Call("12: movePosition(0, 7)", x -> x.movePosition(0, 7), 7),
+                new Call("12: movePosition(7, 0)", x -> x.movePosition(7, 0), 6),
+                new Call("13: turnPosition(0)", x -> x.turnPosition(0), 0),
+                new Call("13: turnPosition(7)", x -> x.turnPosition(7), 0),
+                new Call("21: adoptBest()", x -> x.adoptBest(), 188),
+                new Call("22: adoptNearest()", x -> x.adoptNearest(), 188),
+                new Call("8: removeDuplicates()", x -> x.removeDuplicates(), 2));
     }
 
     // "addStroke, removeStroke, movePosition, turnPosition, adoptBest, .. are edits."
@@ -320,21 +320,21 @@ public final class HistoryEdgesTest {
     // "An edit that changes nothing is an edit, too."
     private static void editsThatChangeNothingAreEdits() {
         for (Call edit : idleEdits()) {
-            Sample.idleEdit("edits: " + edit.name() + " of a row", () -> Sample.row(2),
+            Sample.idleEdit(edit.name() + " of a row", () -> Sample.row(2),
                     edit.calling(), edit.answer());
-            Sample.idleEdit("edits: " + edit.name() + " behind an undo()",
+            Sample.idleEdit(edit.name() + " behind an undo()",
                     () -> undone(() -> rowTurned(1), 1), edit.calling(), edit.answer());
-            Sample.idleEdit("edits: " + edit.name() + ", no edit left",
+            Sample.idleEdit(edit.name() + ", no edit left",
                     () -> undone(() -> rowTurned(4), 4), edit.calling(), edit.answer());
         }
     }
 
     private static List<Call> idleEdits() {
-        return List.of(new Call("movePosition(0, 0)", x -> x.movePosition(0, 0), 0),
-                new Call("movePosition(7, 7)", x -> x.movePosition(7, 7), 7),
-                new Call("adoptBest()", x -> x.adoptBest(), 55),
-                new Call("adoptNearest()", x -> x.adoptNearest(), 55),
-                new Call("removeDuplicates()", x -> x.removeDuplicates(), 0));
+        return List.of(new Call("12: movePosition(0, 0)", x -> x.movePosition(0, 0), 0),
+                new Call("12: movePosition(7, 7)", x -> x.movePosition(7, 7), 7),
+                new Call("21: adoptBest()", x -> x.adoptBest(), 55),
+                new Call("22: adoptNearest()", x -> x.adoptNearest(), 55),
+                new Call("8: removeDuplicates()", x -> x.removeDuplicates(), 0));
     }
 
     private static void editsThatChangeNothingPushOutTheOthers() {
@@ -345,7 +345,7 @@ public final class HistoryEdgesTest {
             x.removeStroke(7);
             x.addStroke(70, 5, 80, 5, 2);
             for (int idle = 0; idle < 3; idle++) {
-                Check.due("edits: " + edit.name(), edit.calling().applyAsInt(x), edit.answer());
+                Check.due(edit.name(), edit.calling().applyAsInt(x), edit.answer());
             }
             undos("three times " + edit.name(), x, 3, 2, 1);
             Check.due("edits: strokeCount() behind " + edit.name(), x.strokeCount(), 8);
@@ -388,43 +388,43 @@ public final class HistoryEdgesTest {
     }
 
     private static List<Call> refusedByAll() {
-        return List.of(new Call("addStroke", x -> x.addStroke(0, 0, 0, 100, 0), WRONG),
-                new Call("addStroke", x -> x.addStroke(7, 7, 7, 7, 0), WRONG),
-                new Call("removeStroke", x -> x.removeStroke(8), WRONG),
-                new Call("penOf", x -> x.penOf(8), WRONG),
-                new Call("alikeTo", x -> x.alikeTo(8), WRONG),
-                new Call("coveredBy", x -> x.coveredBy(8), WRONG),
-                new Call("leastRuns", x -> x.leastRuns(4), WRONG),
-                new Call("strokeAt", x -> x.strokeAt(8), NONE),
-                new Call("directionAt", x -> x.directionAt(8), NONE),
-                new Call("movePosition", x -> x.movePosition(0, 8), WRONG),
-                new Call("movePosition", x -> x.movePosition(8, 0), WRONG),
-                new Call("turnPosition", x -> x.turnPosition(8), WRONG),
-                new Call("runLength", x -> x.runLength(8), NONE),
-                new Call("setPenCost", x -> x.setPenCost(501), WRONG),
-                new Call("bestAt", x -> x.bestAt(8), NONE),
-                new Call("setSquareLimit", x -> x.setSquareLimit(0), WRONG),
-                new Call("setAcceleration", x -> x.setAcceleration(0), WRONG),
-                new Call("cornerLimit", x -> x.cornerLimit(8), WRONG),
-                new Call("endSquare", x -> x.endSquare(8), WRONG),
-                new Call("peakSquare", x -> x.peakSquare(8), WRONG));
+        return List.of(new Call("2: addStroke", x -> x.addStroke(0, 0, 0, 100, 0), WRONG),
+                new Call("2: addStroke", x -> x.addStroke(7, 7, 7, 7, 0), WRONG),
+                new Call("3: removeStroke", x -> x.removeStroke(8), WRONG),
+                new Call("5: penOf", x -> x.penOf(8), WRONG),
+                new Call("6: alikeTo", x -> x.alikeTo(8), WRONG),
+                new Call("7: coveredBy", x -> x.coveredBy(8), WRONG),
+                new Call("9: leastRuns", x -> x.leastRuns(4), WRONG),
+                new Call("10: strokeAt", x -> x.strokeAt(8), NONE),
+                new Call("11: directionAt", x -> x.directionAt(8), NONE),
+                new Call("12: movePosition", x -> x.movePosition(0, 8), WRONG),
+                new Call("12: movePosition", x -> x.movePosition(8, 0), WRONG),
+                new Call("13: turnPosition", x -> x.turnPosition(8), WRONG),
+                new Call("17: runLength", x -> x.runLength(8), NONE),
+                new Call("18: setPenCost", x -> x.setPenCost(501), WRONG),
+                new Call("20: bestAt", x -> x.bestAt(8), NONE),
+                new Call("23: setSquareLimit", x -> x.setSquareLimit(0), WRONG),
+                new Call("24: setAcceleration", x -> x.setAcceleration(0), WRONG),
+                new Call("25: cornerLimit", x -> x.cornerLimit(8), WRONG),
+                new Call("26: endSquare", x -> x.endSquare(8), WRONG),
+                new Call("27: peakSquare", x -> x.peakSquare(8), WRONG));
     }
 
     // "A call that returns an error changes nothing and is no edit."
     private static void refusedCallsAreNoEdits() {
         for (Supplier<PlotterPlanner> state : STATES) {
             for (Call call : refusedByAll()) {
-                Sample.refused("errors: " + call.name(), state, call.calling(), call.answer());
+                Sample.refused(call.name(), state, call.calling(), call.answer());
             }
             Sample.refused("errors: all of them, one behind another", state, x -> {
                 for (Call call : refusedByAll()) {
-                    Check.due("errors: " + call.name(), call.calling().applyAsInt(x),
+                    Check.due(call.name(), call.calling().applyAsInt(x),
                             call.answer());
                 }
                 return WRONG;
             }, WRONG);
         }
-        Sample.refused("errors: addStroke into a full one, five times", Sample::eight, x -> {
+        Sample.refused("2: addStroke into a full one, five times", Sample::eight, x -> {
             for (int stroke = 0; stroke < 4; stroke++) {
                 x.addStroke(1, 2, 3, 4, 0);
             }
@@ -445,26 +445,26 @@ public final class HistoryEdgesTest {
     // NOT_FOUND"; no call of the face can have the latter two at once
     private static void theLowestErrorIsReturned() {
         List<Call> both = List.of(
-                new Call("addStroke, full", x -> x.addStroke(1, 1, 1, 1, 0), WRONG),
-                new Call("addStroke, full", x -> x.addStroke(1, 1, 2, 2, 4), WRONG),
-                new Call("addStroke, full", x -> x.addStroke(100, 1, 2, 2, 0), WRONG),
-                new Call("addStroke, full", x -> x.addStroke(1, -1, 2, 2, 0), WRONG),
-                new Call("addStroke, full", x -> x.addStroke(1, 1, 100, 2, 0), WRONG),
-                new Call("addStroke, full", x -> x.addStroke(1, 1, 2, -1, 0), WRONG),
-                new Call("addStroke, full", x -> x.addStroke(-1, 100, -1, 100, -1), WRONG));
+                new Call("2: addStroke, full", x -> x.addStroke(1, 1, 1, 1, 0), WRONG),
+                new Call("2: addStroke, full", x -> x.addStroke(1, 1, 2, 2, 4), WRONG),
+                new Call("2: addStroke, full", x -> x.addStroke(100, 1, 2, 2, 0), WRONG),
+                new Call("2: addStroke, full", x -> x.addStroke(1, -1, 2, 2, 0), WRONG),
+                new Call("2: addStroke, full", x -> x.addStroke(1, 1, 100, 2, 0), WRONG),
+                new Call("2: addStroke, full", x -> x.addStroke(1, 1, 2, -1, 0), WRONG),
+                new Call("2: addStroke, full", x -> x.addStroke(-1, 100, -1, 100, -1), WRONG));
         for (Call call : both) {
-            Sample.refused("errors: " + call.name(), Sample::eight, call.calling(), call.answer());
+            Sample.refused(call.name(), Sample::eight, call.calling(), call.answer());
         }
         for (Supplier<PlotterPlanner> state : STATES) {
-            Sample.refused("errors: strokeAt(-1)", state, x -> x.strokeAt(-1), WRONG);
-            Sample.refused("errors: directionAt(-1)", state, x -> x.directionAt(-1), WRONG);
-            Sample.refused("errors: runLength(-1)", state, x -> x.runLength(-1), WRONG);
-            Sample.refused("errors: bestAt(-1)", state, x -> x.bestAt(-1), WRONG);
-            Sample.refused("errors: alikeTo(-1)", state, x -> x.alikeTo(-1), WRONG);
-            Sample.refused("errors: coveredBy(-1)", state, x -> x.coveredBy(-1), WRONG);
-            Sample.refused("errors: cornerLimit(-1)", state, x -> x.cornerLimit(-1), WRONG);
-            Sample.refused("errors: cornerLimit(8)", state, x -> x.cornerLimit(8), WRONG);
-            Sample.refused("errors: movePosition(8, -1)", state, x -> x.movePosition(8, -1), WRONG);
+            Sample.refused("10: strokeAt(-1)", state, x -> x.strokeAt(-1), WRONG);
+            Sample.refused("11: directionAt(-1)", state, x -> x.directionAt(-1), WRONG);
+            Sample.refused("17: runLength(-1)", state, x -> x.runLength(-1), WRONG);
+            Sample.refused("20: bestAt(-1)", state, x -> x.bestAt(-1), WRONG);
+            Sample.refused("6: alikeTo(-1)", state, x -> x.alikeTo(-1), WRONG);
+            Sample.refused("7: coveredBy(-1)", state, x -> x.coveredBy(-1), WRONG);
+            Sample.refused("25: cornerLimit(-1)", state, x -> x.cornerLimit(-1), WRONG);
+            Sample.refused("25: cornerLimit(8)", state, x -> x.cornerLimit(8), WRONG);
+            Sample.refused("12: movePosition(8, -1)", state, x -> x.movePosition(8, -1), WRONG);
         }
     }
 

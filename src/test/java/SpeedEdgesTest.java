@@ -541,6 +541,7 @@ public final class SpeedEdgesTest {
         promise27IsTheSmallerOfBoth();
         promise27RoundsDown();
         promise27CountsBothSpeeds();
+        promise27IsOfThePlanAsItIs();
         promise27IsNoEdit();
     }
 
@@ -596,6 +597,27 @@ public final class SpeedEdgesTest {
         PlotterPlanner y = Sample.drawn(0, 0, 30, 0, 0, 30, 0, 40, 0, 0, 40, 0, 70, 0, 0);
         y.setSquareLimit(100);
         speeds("at the limit all the way", y, row(100, 100, 0), row(100, 100, 100));
+    }
+
+    /** Asked at once behind each change, with no other question about speeds before it. */
+    private static void promise27IsOfThePlanAsItIs() {
+        PlotterPlanner x = Sample.drawn(0, 0, 3, 0, 0, 3, 0, 23, 0, 0, 23, 0, 28, 0, 0);
+        Check.due("27: the first question", x.peakSquare(1), (60 + 100 + 400) / 2);
+        x.setAcceleration(20);
+        Check.due("27: behind setAcceleration(20)", x.peakSquare(1), 400);
+        x.setSquareLimit(9999);
+        Check.due("27: behind setSquareLimit(9999)", x.peakSquare(1), (120 + 200 + 800) / 2);
+        x.turnPosition(0);
+        Check.due("27: behind turnPosition(0)", x.peakSquare(1), (200 + 800) / 2);
+        x.removeStroke(2);
+        Check.due("27: behind removeStroke(2)", x.peakSquare(1), 800 / 2);
+        x.undo();
+        x.undo();
+        Check.due("27: behind undo()", x.peakSquare(1), (120 + 200 + 800) / 2);
+        x.movePosition(0, 2);
+        Check.due("27: behind movePosition(0, 2)", x.peakSquare(1), 200);
+        x.adoptBest();
+        Check.due("27: behind adoptBest()", x.peakSquare(1), (120 + 200 + 800) / 2);
     }
 
     private static void promise27IsNoEdit() {

@@ -846,6 +846,7 @@ public final class StrokeEdgesTest {
         promise9IsOneWhereNoVertexIsOdd();
         promise9IsHalfOfTheOddVertices();
         promise9AddsUpTheComponents();
+        promise9JoinsAtEitherEndInEachOrder();
         promise9KnowsEndPointsAlone();
     }
 
@@ -950,6 +951,30 @@ public final class StrokeEdgesTest {
         x.addStroke(5, 5, 5, 9, 1);
         Check.due("9: leastRuns(0) with another pen at its vertex", x.leastRuns(0), 1);
         Check.due("9: leastRuns(1) with another pen at its vertex", x.leastRuns(1), 1);
+    }
+
+    // "For each connected component of this graph": whichever stroke comes first, turned or not
+    private static void promise9JoinsAtEitherEndInEachOrder() {
+        int[][] path = {{0, 0, 5, 0}, {5, 0, 5, 5}, {5, 5, 9, 9}};
+        int[][] orders = {{0, 1, 2}, {0, 2, 1}, {1, 0, 2}, {1, 2, 0}, {2, 0, 1}, {2, 1, 0}};
+        for (int[] order : orders) {
+            for (int turns = 0; turns < 8; turns++) {
+                int[][] strokes = new int[3][];
+                for (int stroke = 0; stroke < 3; stroke++) {
+                    int[] part = path[order[stroke]];
+                    boolean turned = (turns >> stroke & 1) == 1;
+                    strokes[stroke] = turned
+                            ? new int[] {part[2], part[3], part[0], part[1]} : part;
+                }
+                String name = "a path " + Arrays.toString(order) + ", turned " + turns;
+                leastRuns(name, 1, strokes);
+                leastRuns(name + ", its first two", Math.abs(order[0] - order[1]),
+                        Arrays.copyOf(strokes, 2));
+            }
+        }
+        leastRuns("a row of eight, the even ones first", 1, new int[][] {{0, 5, 10, 5},
+            {20, 5, 30, 5}, {40, 5, 50, 5}, {60, 5, 70, 5}, {10, 5, 20, 5}, {30, 5, 40, 5},
+            {50, 5, 60, 5}, {70, 5, 80, 5}});
     }
 
     // "whose vertices are the end points of the strokes"

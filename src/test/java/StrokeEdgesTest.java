@@ -931,6 +931,12 @@ public final class StrokeEdgesTest {
         for (int arms = 1; arms <= 8; arms++) {
             leastRuns("a star of " + arms, want[arms - 1], Arrays.copyOf(star, arms));
         }
+        for (int corner : new int[] {0, 99}) {
+            leastRuns("a star at the corner " + corner, 2, new int[][] {{corner, corner, 50, 50},
+                {corner, corner, 50, 60}, {60, 50, corner, corner}});
+            leastRuns("a star with an arm to the corner " + corner, 2, new int[][] {
+                {corner, corner, 50, 50}, {50, 50, 50, 60}, {60, 50, 50, 50}});
+        }
     }
 
     // "The least number of runs of the pen is the sum, over all components"

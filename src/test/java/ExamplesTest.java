@@ -1,4 +1,4 @@
-/** The four examples of the document, call by call. */
+/** The four examples of the document and the one of README.md, call by call. */
 public final class ExamplesTest {
     private ExamplesTest() {
     }
@@ -8,6 +8,7 @@ public final class ExamplesTest {
         speedsThroughCorners();
         duplicatesAndCoveredStrokes();
         leastNumberOfRuns();
+        readme();
         Check.finish();
     }
 
@@ -56,5 +57,16 @@ public final class ExamplesTest {
         Check.due("4: leastRuns(1)", x.leastRuns(1), 1);
         Check.due("4: leastRuns(0)", x.leastRuns(0), 0);
         Check.due("4: leastRuns(4)", x.leastRuns(4), -1);
+    }
+
+    private static void readme() {
+        PlotterPlanner x = new PlotterPlanner();
+        Check.due("README: addStroke(10, 10, 20, 10, 0)", x.addStroke(10, 10, 20, 10, 0), 0);
+        Check.due("README: addStroke(40, 40, 20, 10, 0)", x.addStroke(40, 40, 20, 10, 0), 1);
+        Check.due("README: cost()", x.cost(), 90);
+        Check.due("README: bestCost()", x.bestCost(), 60);
+        Check.due("README: adoptBest()", x.adoptBest(), 60);
+        Check.due("README: runLength(0)", x.runLength(0), 2);
+        Check.due("README: undo()", x.undo(), 2);
     }
 }

@@ -16,9 +16,6 @@ public final class HistoryEdgesTest {
     private record Call(String name, ToIntFunction<PlotterPlanner> calling, int answer) {
     }
 
-    private static final List<Supplier<PlotterPlanner>> STATES =
-            List.of(Sample::none, Sample::three, Sample::eight);
-
     private HistoryEdgesTest() {
     }
 
@@ -377,7 +374,7 @@ public final class HistoryEdgesTest {
 
     // the list of the edits names none of them
     private static void questionsAndSettingsAreNoEdits() {
-        for (Supplier<PlotterPlanner> state : STATES) {
+        for (Supplier<PlotterPlanner> state : Sample.STATES) {
             Sample.isNoEdit("edits: all questions and settings", state, x -> {
                 for (ToIntFunction<PlotterPlanner> call : questionsAndSettings()) {
                     call.applyAsInt(x);
@@ -412,7 +409,7 @@ public final class HistoryEdgesTest {
 
     // "A call that returns an error changes nothing and is no edit."
     private static void refusedCallsAreNoEdits() {
-        for (Supplier<PlotterPlanner> state : STATES) {
+        for (Supplier<PlotterPlanner> state : Sample.STATES) {
             for (Call call : refusedByAll()) {
                 Sample.refused(call.name(), state, call.calling(), call.answer());
             }
@@ -455,7 +452,7 @@ public final class HistoryEdgesTest {
         for (Call call : both) {
             Sample.refused(call.name(), Sample::eight, call.calling(), call.answer());
         }
-        for (Supplier<PlotterPlanner> state : STATES) {
+        for (Supplier<PlotterPlanner> state : Sample.STATES) {
             Sample.refused("10: strokeAt(-1)", state, x -> x.strokeAt(-1), WRONG);
             Sample.refused("11: directionAt(-1)", state, x -> x.directionAt(-1), WRONG);
             Sample.refused("17: runLength(-1)", state, x -> x.runLength(-1), WRONG);

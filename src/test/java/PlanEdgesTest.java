@@ -1,3 +1,5 @@
+import java.util.function.Supplier;
+
 /**
  * Promises 10 to 17 at their edges: a test for each sentence of the document that names one. The
  * sentence stands above the test, the promise in its name.
@@ -30,6 +32,7 @@ public final class PlanEdgesTest {
         promise10And11TakeTheFirstAndTheLastPosition();
         promise10And11FollowTheNumberOfStrokes();
         promise10And11AreNoEdits();
+        promise10And11HoldEachStrokeOnce();
     }
 
     // "INVALID_ARGUMENT if position is negative", though there is no such position, either
@@ -91,6 +94,57 @@ public final class PlanEdgesTest {
         Sample.isNoEdit("10: strokeAt(7)", Sample::eight, x -> x.strokeAt(7));
         Sample.isNoEdit("11: directionAt(0)", Sample::three, x -> x.directionAt(0));
         Sample.isNoEdit("11: directionAt(7)", Sample::eight, x -> x.directionAt(7));
+    }
+
+    // "The plan contains each stroke exactly once.", behind each edit and each undo
+    private static void promise10And11HoldEachStrokeOnce() {
+        holdsEachStrokeOnce("a new object", Sample.none());
+        for (Supplier<PlotterPlanner> state : Sample.STATES) {
+            for (int edit = 0; edit < 7; edit++) {
+                PlotterPlanner x = state.get();
+                int last = x.strokeCount() - 1;
+                for (int times = 1; times <= 3; times++) {
+                    edit(x, edit, last);
+                    holdsEachStrokeOnce("edit " + edit + ", " + times + " times", x);
+                }
+                x.undo();
+                x.undo();
+                holdsEachStrokeOnce("edit " + edit + ", undone twice", x);
+                x.undo();
+                holdsEachStrokeOnce("edit " + edit + ", undone three times", x);
+            }
+        }
+    }
+
+    private static int edit(PlotterPlanner x, int edit, int last) {
+        return switch (edit) {
+            case 0 -> x.addStroke(9, 8, 7, 6, 1);
+            case 1 -> x.removeStroke(last / 2);
+            case 2 -> x.movePosition(0, last);
+            case 3 -> x.turnPosition(last);
+            case 4 -> x.adoptBest();
+            case 5 -> x.adoptNearest();
+            default -> x.removeDuplicates();
+        };
+    }
+
+    private static void holdsEachStrokeOnce(String name, PlotterPlanner x) {
+        int count = x.strokeCount();
+        int[] found = new int[8];
+        for (int position = 0; position < count; position++) {
+            int stroke = x.strokeAt(position);
+            boolean known = stroke >= 0 && stroke < count;
+            Check.due("10: " + name + ": strokeAt(" + position + ") is one", known ? 1 : 0, 1);
+            found[known ? stroke : 0]++;
+            int direction = x.directionAt(position);
+            Check.due("11: " + name + ": directionAt(" + position + ") is one",
+                    direction == 0 || direction == 1 ? 1 : 0, 1);
+        }
+        for (int stroke = 0; stroke < count; stroke++) {
+            Check.due("10: " + name + ": stroke " + stroke + " in the plan", found[stroke], 1);
+        }
+        Check.due("10: " + name + ": strokeAt(end)", x.strokeAt(count), NONE);
+        Check.due("11: " + name + ": directionAt(end)", x.directionAt(count), NONE);
     }
 
     // Promise 12

@@ -4,7 +4,7 @@ import java.util.Random;
 public final class ReferenceTest {
     private static final int RUNS = 400;
     private static final int CALLS = 512;
-    private static final int KINDS = 26;
+    private static final int KINDS = 27;
 
     private final PlotterPlanner planner = new PlotterPlanner();
     private final Reference reference = new Reference();
@@ -37,10 +37,11 @@ public final class ReferenceTest {
         }
     }
 
+    /** One call on each, so that a run has no more than the document lets an object have. */
     private void call(int call) {
         int kind = random.nextInt(KINDS + 8);
-        if (kind >= KINDS) {
-            kind = reference.strokeCount() < most ? 0 : 1;
+        if (kind == 0 || kind >= KINDS) {
+            kind = hasRoom() ? 0 : 1;
         }
         if (kind == 0) {
             addStroke(call);
@@ -50,6 +51,10 @@ public final class ReferenceTest {
             Check.due(name + "call " + call + " kind " + kind + " (" + a + ", " + b + ")",
                     onPlanner(kind, a, b), onReference(kind, a, b));
         }
+    }
+
+    private boolean hasRoom() {
+        return reference.strokeCount() < most || most > 8 && random.nextInt(3) == 0;
     }
 
     /** Mostly an index that there is, now and then one beside it or far out. */
@@ -72,15 +77,13 @@ public final class ReferenceTest {
         int x2 = coordinate();
         int y2 = coordinate();
         int pen = random.nextInt(30) == 0 ? random.nextInt(8) - 2 : random.nextInt(pens);
-        if (reference.strokeCount() < most || random.nextInt(3) == 0 && most > 8) {
-            Check.due(name + "call " + call + " addStroke",
-                    planner.addStroke(x1, y1, x2, y2, pen),
-                    reference.addStroke(x1, y1, x2, y2, pen));
-        }
+        Check.due(name + "call " + call + " addStroke", planner.addStroke(x1, y1, x2, y2, pen),
+                reference.addStroke(x1, y1, x2, y2, pen));
     }
 
-    private static int setting(int a, int highest) {
-        return a < 0 || a > highest ? a : a * 37 % (highest + 2);
+    /** Over the whole range as far as indices reach, and at times just outside of it. */
+    private static int setting(int a, int b, int highest) {
+        return Math.floorMod(a * 37 + b * 1249, highest + 3) - 1;
     }
 
     private int onPlanner(int kind, int a, int b) {
@@ -100,15 +103,16 @@ public final class ReferenceTest {
             case 13 -> planner.penChanges();
             case 14 -> planner.runCount();
             case 15 -> planner.runLength(a);
-            case 16 -> planner.setPenCost(setting(a, 500));
+            case 16 -> planner.setPenCost(setting(a, b, 500));
             case 17 -> planner.bestCost();
             case 18 -> planner.bestAt(a);
             case 19 -> planner.adoptBest();
             case 20 -> planner.adoptNearest();
-            case 21 -> planner.setSquareLimit(setting(a, 9999));
-            case 22 -> planner.setAcceleration(setting(a, 99));
+            case 21 -> planner.setSquareLimit(setting(a, b, 9999));
+            case 22 -> planner.setAcceleration(setting(a, b, 99));
             case 23 -> planner.cornerLimit(a);
-            case 24 -> planner.endSquare(a) * 20000 + planner.peakSquare(a);
+            case 24 -> planner.endSquare(a);
+            case 25 -> planner.peakSquare(a);
             default -> planner.undo();
         };
     }
@@ -130,15 +134,16 @@ public final class ReferenceTest {
             case 13 -> reference.penChanges();
             case 14 -> reference.runCount();
             case 15 -> reference.runLength(a);
-            case 16 -> reference.setPenCost(setting(a, 500));
+            case 16 -> reference.setPenCost(setting(a, b, 500));
             case 17 -> reference.bestCost();
             case 18 -> reference.bestAt(a);
             case 19 -> reference.adoptBest();
             case 20 -> reference.adoptNearest();
-            case 21 -> reference.setSquareLimit(setting(a, 9999));
-            case 22 -> reference.setAcceleration(setting(a, 99));
+            case 21 -> reference.setSquareLimit(setting(a, b, 9999));
+            case 22 -> reference.setAcceleration(setting(a, b, 99));
             case 23 -> reference.cornerLimit(a);
-            case 24 -> reference.endSquare(a) * 20000 + reference.peakSquare(a);
+            case 24 -> reference.endSquare(a);
+            case 25 -> reference.peakSquare(a);
             default -> reference.undo();
         };
     }

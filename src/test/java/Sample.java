@@ -1,3 +1,4 @@
+import java.util.List;
 import java.util.function.Supplier;
 import java.util.function.ToIntFunction;
 
@@ -12,6 +13,9 @@ final class Sample {
     static final int[] NEGATIVE = {-1, -2, -8, -256, LEAST + 1, LEAST};
     /** No positions or runs, however many strokes there are. */
     static final int[] BEYOND = {8, 9, 16, 256, 65536, GREATEST - 1, GREATEST};
+
+    static final List<Supplier<PlotterPlanner>> STATES =
+            List.of(Sample::none, Sample::three, Sample::eight);
 
     private Sample() {
     }
@@ -73,7 +77,7 @@ final class Sample {
         return planner;
     }
 
-    /** What the planner answers about strokes, plan, best plan and speeds; at most 89 calls. */
+    /** What the planner answers about strokes, plan, best plan and speeds; at most 90 calls. */
     static String answers(PlotterPlanner planner) {
         StringBuilder text = new StringBuilder();
         int count = planner.strokeCount();

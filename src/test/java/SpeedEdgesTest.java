@@ -228,6 +228,7 @@ public final class SpeedEdgesTest {
         promise25RoundsTheQuarterDown();
         promise25FollowsTheDirectionsOfThePlan();
         promise25TakesTheFirstAndTheLastCorner();
+        promise25IsOfThePlanAsItIs();
         promise25IsNoEdit();
     }
 
@@ -368,6 +369,29 @@ public final class SpeedEdgesTest {
         Check.due("25: cornerLimit(0) of three", Sample.three().cornerLimit(0), 100);
     }
 
+    /** Asked at once behind each change, with no other question about speeds before it. */
+    private static void promise25IsOfThePlanAsItIs() {
+        PlotterPlanner x = Sample.drawn(0, 0, 9, 0, 0, 9, 0, 18, 0, 0, 18, 0, 27, 1, 0);
+        Check.due("25: the first question", x.cornerLimit(1), 100);
+        x.setSquareLimit(9999);
+        Check.due("25: behind setSquareLimit(9999)", x.cornerLimit(1), 2499);
+        x.movePosition(0, 2);
+        Check.due("25: behind movePosition(0, 2)", x.cornerLimit(1), NONE);
+        x.adoptBest();
+        Check.due("25: behind adoptBest()", x.cornerLimit(0), 9999);
+        x.turnPosition(2);
+        Check.due("25: behind turnPosition(2)", x.cornerLimit(1), NONE);
+        x.adoptNearest();
+        Check.due("25: behind adoptNearest()", x.cornerLimit(1), 2499);
+        x.removeStroke(0);
+        Check.due("25: behind removeStroke(0)", x.cornerLimit(1), NONE);
+        x.addStroke(27, 1, 36, 2, 0);
+        Check.due("25: behind addStroke", x.cornerLimit(1), 9999);
+        x.undo();
+        x.undo();
+        Check.due("25: behind undo()", x.cornerLimit(1), 2499);
+    }
+
     private static void promise25IsNoEdit() {
         Sample.answersAlone("25: cornerLimit(0)", Sample::three, x -> x.cornerLimit(0), 100);
         Sample.answersAlone("25: cornerLimit(0)", () -> Sample.row(0), x -> x.cornerLimit(0), 400);
@@ -387,6 +411,7 @@ public final class SpeedEdgesTest {
         promise26OfEightStrokes();
         promise26And27AtTheHighestSettings();
         promise26And27AtTheLowestSettings();
+        promise26IsOfThePlanAsItIs();
         promise26IsNoEdit();
     }
 
@@ -527,6 +552,31 @@ public final class SpeedEdgesTest {
         x.setSquareLimit(1);
         x.setAcceleration(99);
         speeds("the lowest limit", x, row(1, 0, 0), row(1, 1, 1));
+    }
+
+    /** Asked at once behind each change, with no other question about speeds before it. */
+    private static void promise26IsOfThePlanAsItIs() {
+        PlotterPlanner x = Sample.drawn(0, 0, 3, 0, 0, 3, 0, 23, 0, 0, 23, 0, 28, 0, 0);
+        Check.due("26: the first question", x.endSquare(1), 100);
+        x.setAcceleration(50);
+        Check.due("26: behind setAcceleration(50)", x.endSquare(1), 400);
+        x.setSquareLimit(9999);
+        Check.due("26: behind setSquareLimit(9999)", x.endSquare(1), 500);
+        x.turnPosition(2);
+        Check.due("26: behind turnPosition(2)", x.endSquare(1), 0);
+        x.adoptBest();
+        Check.due("26: behind adoptBest()", x.endSquare(1), 500);
+        x.movePosition(0, 2);
+        Check.due("26: behind movePosition(0, 2)", x.endSquare(1), 0);
+        x.adoptNearest();
+        Check.due("26: behind adoptNearest()", x.endSquare(1), 500);
+        x.addStroke(28, 0, 99, 0, 0);
+        Check.due("26: behind addStroke", x.endSquare(1), 300 + 2000);
+        x.removeStroke(0);
+        Check.due("26: behind removeStroke(0)", x.endSquare(1), 2000 + 500);
+        x.undo();
+        x.undo();
+        Check.due("26: behind undo()", x.endSquare(1), 500);
     }
 
     private static void promise26IsNoEdit() {

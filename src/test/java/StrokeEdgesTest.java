@@ -848,6 +848,7 @@ public final class StrokeEdgesTest {
         promise9AddsUpTheComponents();
         promise9JoinsAtEitherEndInEachOrder();
         promise9KnowsEndPointsAlone();
+        promise9IsOfTheStrokesAsTheyAre();
     }
 
     private static PlotterPlanner drawn(int pen, int[]... strokes) {
@@ -990,5 +991,33 @@ public final class StrokeEdgesTest {
         leastRuns("one on the other", 2, new int[][] {{0, 5, 9, 5}, {3, 5, 4, 5}});
         leastRuns("(0, 99) and (1, 0)", 2, new int[][] {{0, 99, 50, 50}, {1, 0, 60, 60}});
         leastRuns("(99, 0) and (0, 1)", 2, new int[][] {{99, 0, 50, 50}, {0, 1, 60, 60}});
+    }
+    // "whose edges are these strokes": not those that an earlier question was about
+    private static void promise9IsOfTheStrokesAsTheyAre() {
+        PlotterPlanner x = drawn(0, new int[][] {{0, 0, 5, 0}, {5, 5, 9, 9}, {5, 0, 5, 5}});
+        Check.due("9: a path, joined by its last stroke", x.leastRuns(0), 1);
+        x.removeStroke(2);
+        Check.due("9: behind removeStroke(2)", x.leastRuns(0), 2);
+        x.addStroke(5, 0, 5, 5, 1);
+        Check.due("9: joined by another pen", x.leastRuns(0), 2);
+        Check.due("9: the other pen", x.leastRuns(1), 1);
+        x.addStroke(5, 5, 5, 0, 0);
+        Check.due("9: joined again", x.leastRuns(0), 1);
+        Check.due("9: the other pen again", x.leastRuns(1), 1);
+        x.removeStroke(0);
+        Check.due("9: behind removeStroke(0)", x.leastRuns(0), 1);
+        Check.due("9: undo()", x.undo(), 3);
+        Check.due("9: undo()", x.undo(), 2);
+        Check.due("9: behind undo()", x.leastRuns(0), 2);
+        x.addStroke(0, 0, 5, 0, 0);
+        x.addStroke(5, 0, 0, 0, 0);
+        Check.due("9: three alike", x.leastRuns(0), 2);
+        x.removeDuplicates();
+        Check.due("9: behind removeDuplicates()", x.leastRuns(0), 2);
+        // the plan does not matter
+        x.turnPosition(0);
+        x.movePosition(0, 2);
+        Check.due("9: turned and moved", x.leastRuns(0), 2);
+        Check.due("9: turned and moved, the other pen", x.leastRuns(1), 1);
     }
 }
